@@ -196,6 +196,10 @@ public final class Promises {
     due("ints wrap", x.skill(0, 0), 9999 * 9999 * 9999 < 0 ? 1 : 0);
     due("told", army("post a mule weighs 5; man m brave 3 wit 2 coins 0; skill 7 and 2 or 0;"), 0);
     due("1 or 0", x.skill(0, 0), 1);
+    due("told", army("post a mule weighs 5; man m brave 3 wit 2 coins 0; skill 2 < 2 or 0 or 4 = 5;"), 0);
+    due("neither", x.skill(0, 0), 0);
+    due("told", army("post a mule weighs 5; man m brave 3 wit 2 coins 0; skill 0 or 8;"), 0);
+    due("the second", x.skill(0, 0), 1);
     begin(3);
     due("order", x.order(1), true);
     due("see", x.see(1), true);
@@ -545,6 +549,9 @@ public final class Promises {
     begin(20, "worth 0 - 5;");
     due("of equal ones the least: x keeps a", x.swaps(0), 0);
     due("y has what is left", x.swaps(1), 1);
+    begin(20, "worth (sense = 6) * (kind = 0);");
+    due("x, to whom they are equal, likes a", x.swaps(0), 0);
+    due("y would have liked a", x.swaps(1), 1);
     // m likes c, n likes a, o likes b: a ring of three, p likes a and is left with his own
     beginWith(20, "post a foot weighs 1; post b foot weighs 2; post c foot weighs 3; post d foot weighs 4;"
         + "man m brave 3 wit 0 coins 0; man n brave 1 wit 0 coins 0; man o brave 2 wit 0 coins 0; man p brave 1 wit 0 coins 0;"
@@ -565,6 +572,9 @@ public final class Promises {
     due("nobody", x.pool(0), -1);
     due("z has none", x.pool(4), -1);
     due("z has none", x.pool(7), -1);
+    due("sell", x.sell(0, 2, 0), true);
+    due("x has none", x.pool(1), -1);
+    due("undo", x.undo(), true);
     due("others", x.pool(8), -1);
     due("others", x.pool(-1), -1);
     due("others", x.pool(Integer.MIN_VALUE), -1);
@@ -697,6 +707,9 @@ public final class Promises {
     due("the cells now", x.putOff(1), -1);
     beginWith(29, "front 40 at 39;");
     due("39", x.putOff(0), 39);
+    beginWith(29, "front 8 at 3; goes 0 - 1 - what;");
+    due("one by one", x.putOff(0), 3);
+    due("hold", x.putOff(1), 0);
   }
 
   private static void resting() {
@@ -749,6 +762,10 @@ public final class Promises {
     due("n has the first post", x.years(0, 1, 2), 1);
     due("draw", x.draw(3), true);
     due("the row begins by numbers", x.years(0, 1, 2), 1);
+    beginWith(31, "post a foot weighs 1; man m brave 3 wit 0 coins 0; heed 3;");
+    due("skill of heed", x.years(0, 9, 2), 0);
+    beginWith(31, "post a foot weighs 1; heed 3;");
+    due("no man", x.years(0, 9, 2), 0);
   }
 
   private static void marking() {
@@ -775,6 +792,18 @@ public final class Promises {
     for (int i = 0; i < want.length; i++) due("count(" + i + ")", x.count(i), want[i]);
     due("coins", x.man(0, 2), 9);
     due("nothing to undo", x.undo(), false);
+    due("what was told", x.fair(2, 3), 333333);
+    due("what was seen", x.orders(-1), 0);
+    due("seen, and laid", x.see(0) && x.mark(2, false), true);
+    due("another army's mark is gone", army("post a foot weighs 1; man m brave 1 wit 1 coins 1;") == 0 && x.mark(2, true), false);
+    begin(32);
+    due("see", x.see(2), true);
+    due("tell", x.tell(2, 1), true);
+    due("laid", x.mark(1, false), true);
+    due("see more", x.see(8), true);
+    due("back", x.mark(1, true), true);
+    due("push or yield", x.orders(-1), 2);
+    due("b was drawn", x.fair(2, 3), 333333);
     due("draw", x.draw(9999), true);
     due("laid anew", x.mark(3, false), true);
     due("draw", x.draw(0), true);
