@@ -140,6 +140,14 @@ final class BoundaryFronts {
     }
     b.fresh("front 40 at 39; goes what - 3;");
     b.due("putOff(0)=39 putOff(1)=2");
+    b.due("putOff(0)=39 putOff(1)=2 putOff(0)=39");
+    b.fresh("front 40 at 39; goes 0 - 1 - what;");
+    b.due("putOff(0)=39 putOff(1)=0 putOff(0)=39");
+    b.fresh("front 40 at 39; goes 0 - 3 + 2 * (what = 1);");
+    b.due("putOff(0)=39 putOff(1)=1");
+    // what ORDERS told ahead is no matter, nor the other way round
+    b.fresh("front 40 at 39; goes 0 - 3 + what;");
+    b.due("see(38)=yes see(37)=yes see(36)=yes see(35)=yes see(34)=yes orders(0)=2 orders(4)=2 putOff(0)=39 putOff(1)=2 orders(0)=2 orders(4)=2 orders(none)=1");
     // it need not be: by none, by hold alone, by yield alone; next to 0 the first that is not lost at once
     b.fresh("front 4 at 1; goes 0;");
     b.due("putOff(0)=none putOff(1)=0");
@@ -154,6 +162,11 @@ final class BoundaryFronts {
       b.fresh("front 4 at " + at + "; goes (what = 1) * 6 - 3;");
       b.due("putOff(0)=none putOff(1)=1");
     }
+    // the last of 40 cells by hold, or by push, against a week lost
+    b.fresh("front 40 at 39; goes (what = 0) * 3 - 1;");
+    b.due("putOff(0)=none putOff(1)=0");
+    b.fresh("front 40 at 1; goes (what = 1) * 4 - 1;");
+    b.due("putOff(0)=none putOff(1)=1");
     // quarters aside; posts as now
     b.fresh("quarter 1; front 40 at 39;");
     b.due("weeks(1)=1 count(12)=1 putOff(0)=38 putOff(1)=0");
@@ -206,7 +219,7 @@ final class BoundaryFronts {
     // below 2 to 6, by SEEDS from end to end
     for (int men = 2; men <= 6; men++) {
       b.fresh(Samples.posts(1) + Samples.men(men));
-      for (int seed = men; seed <= 9999; seed += 97) b.due("draw(" + seed + ")=yes post(0,3)=" + Samples.drawn(seed, men)[0]);
+      for (int seed = men; seed <= 9999; seed += 97) b.due("draw(" + seed + ")=yes post(0,3)=" + new Lots(seed).row(men)[0]);
     }
     // by hand: g is 12345, 0 of 2; 1103527590 of SEED 1, 16838, 0 of 2; 2207042835 less 2147483648 of 2, 908, 0 of 2; of 3 17747, 1
     b.fresh(Samples.posts(2) + Samples.men(2));
@@ -231,19 +244,10 @@ final class BoundaryFronts {
   /** What YEARS come to if hold loses 1, push 0, yield wins 1, by POSTS that weigh 1 to 6 and MEN of courage 1 to 6. */
   private static int[] simulated(int seed, int quarters, int weeks, int heed) {
     int front = 20, passed = 0, unheeded = 0;
-    long g = seed;
+    Lots lots = new Lots(seed);
     for (int quarter = 0; quarter < quarters; quarter++) {
-      int[] row = {0, 1, 2, 3, 4, 5};
-      for (int standing = 6; standing >= 2; standing--) {
-        g = (g * 1103515245L + 12345L) % 2147483648L;
-        int other = (int) (g / 65536 % standing);
-        int man = row[standing - 1];
-        row[standing - 1] = row[other];
-        row[other] = man;
-      }
-      g = (g * 1103515245L + 12345L) % 2147483648L;
-      int order = (int) (g / 65536 % 3);
-      if (row[0] + 1 < heed) unheeded++;
+      if (lots.row(6)[0] + 1 < heed) unheeded++;
+      int order = lots.below(3);
       for (int week = 0; week < weeks && front > 0 && front < 40; week++) {
         front += order - 1;
         passed++;

@@ -75,8 +75,14 @@ final class BoundaryPosts {
     b.due("best(none)=0 best(0)=0 best(1)=1 best(2)=none");
     b.fresh("post a foot weighs 2; post b foot weighs 2; man m brave 1 wit 0 coins 0; man n brave 7 wit 0 coins 0; man o brave 7 wit 0 coins 0;");
     b.due("best(none)=28 best(0)=1 best(1)=2");
-    // it is the same whoever has what now
+    // it is the same whoever has what now, and another with another ARMY
     b.due("draw(3)=yes sell(0,1,0)=yes best(none)=28 best(0)=1 best(1)=2");
+    b.army(Samples.posts(1) + Samples.men(2));
+    b.due("best(none)=2 best(0)=1 best(1)=other mean()=1500 loss()=500 plan(1,0)=4000");
+    b.army("front 40 at 20; goes what;");
+    b.due("best(none)=0 best(0)=other mean()=0 loss()=0 plan(1,0)=22000 plan(5,0)=30000");
+    b.army(Samples.posts(2) + Samples.men(2) + "front 40 at 20; goes 0 - what;");
+    b.due("best(none)=5 best(0)=0 best(1)=1 mean()=4500 loss()=500 plan(1,0)=20000 plan(5,0)=20000");
   }
 
   private void mean() {
@@ -176,6 +182,17 @@ final class BoundaryPosts {
     b.fresh(Samples.posts(1) + Samples.men(2) + "quarter 1; front 20 at 10; goes (ours = 2) * 2 - 1 + (what = 1);");
     b.due("plan(1,0)=11000 plan(1,1)=1 weeks(1)=1 count(3)=9 count(12)=1 plan(1,0)=10000 plan(5,0)=14000 plan(5,5)=1");
     b.due("sell(0,1,0)=yes plan(1,0)=10000 order(2)=yes plan(1,0)=10000 draw(0)=yes weeks(1)=1 count(3)=10 plan(1,0)=11000");
+    // the most and the least that it can go by, by all orders, and by some ways alone
+    b.fresh("front 40 at 20; goes 3;");
+    b.due("plan(1,0)=23000 plan(5,0)=35000 plan(5,1)=0");
+    b.fresh("front 40 at 20; goes 0 - 3;");
+    b.due("plan(1,0)=17000 plan(5,0)=5000 plan(5,1)=0");
+    b.army("front 40 at 20; goes 0 - 3;");
+    b.due("plan(1,0)=17000 plan(5,0)=5000 plan(5,1)=0");
+    b.army("front 40 at 20; goes 3;");
+    b.due("plan(1,0)=23000 plan(5,0)=35000 plan(5,1)=0");
+    b.fresh(Samples.posts(1) + Samples.men(2) + "front 40 at 20; goes ours * 6 - 9;");
+    b.due("plan(1,0)=20000 plan(5,0)=20000 plan(5,1)=0");
     // 720 ways, each the same
     b.fresh(Samples.posts(6) + Samples.men(6) + "front 40 at 20; goes what + 1; theirs 0;");
     b.due("plan(5,0)=35000 plan(5,1)=2 plan(5,5)=2");
@@ -218,8 +235,9 @@ final class BoundaryPosts {
     Samples.busyWithTape(b);
     b.refused("swaps(-1)=other swaps(4)=other swaps(-2)=other swaps(6)=other swaps(MIN)=other swaps(MAX)=other");
     b.refused("swaps(0)=2 swaps(1)=1 swaps(2)=0 swaps(3)=none");
+    // the last keeps the heaviest, then the one ahead of him the next, and at last the first his own
     b.fresh(Samples.posts(6) + Samples.men(6));
-    b.due("swaps(5)=5 swaps(6)=other");
+    b.due("swaps(0)=0 swaps(1)=1 swaps(2)=2 swaps(3)=3 swaps(4)=4 swaps(5)=5 swaps(6)=other");
     b.fresh(Samples.men(6));
     b.due("swaps(0)=none swaps(5)=none swaps(6)=other");
   }

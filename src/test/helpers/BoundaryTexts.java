@@ -577,6 +577,14 @@ final class BoundaryTexts {
     b.due("skill(0,0)=9");
     b.fresh();
     b.armyFault(1, line + "+0".repeat(room) + " ".repeat(1000 - line.length() - 2 * room) + "^");
+    // four times as long as can be, good and wrong, on one object
+    b.fresh();
+    for (int i = 0; i < 4; i++) {
+      b.feed(line + "+0".repeat(room - 1) + "+" + (i % 2 == 0 ? "2" : "3") + " ".repeat(1000 - line.length() - 1 - 2 * room) + ";");
+      b.due("army()=0 skill(0,0)=" + (i % 2 == 0 ? 9 : 10));
+      b.feed(line + "+0".repeat(room - 1) + "++");
+      b.due("army()=" + (1 + 16 * (line.length() + 2 * room - 1)) + " skill(0,0)=" + (i % 2 == 0 ? 9 : 10));
+    }
     int pairs = (1000 - line.length() - 1) / 8;
     b.fresh(line + " or 0*0".repeat(pairs) + ";");
     b.due("skill(0,0)=1");
@@ -792,6 +800,26 @@ final class BoundaryTexts {
       b.isAsNewWith(army);
       b.due("undo()=no mark(0,back)=no mark(1,back)=no mark(2,back)=no mark(3,back)=no");
     }
+    // as much as an ARMY can tell, twice, leaves nothing behind in one that tells less
+    for (String army : armies) {
+      b.fresh();
+      for (int i = 0; i < 2; i++) {
+        b.army(Samples.GREATEST);
+        b.war("draw 9999; sell a b 999; order yield; weeks 13;".repeat(6));
+        b.due("best(none)=5346 mean()=5346000 plan(5,0)=40000 pool(63)=5346 swaps(5)=5 see(40)=yes tell(5,5)=yes order(2)=yes orders(0)=0 judged(0)=3");
+      }
+      b.army(army);
+      b.isAsNewWith(army);
+      b.fresh(Samples.LEAST);
+      b.army(Samples.LEAST);
+      b.due("plan(1,0)=0 weeks(1)=1");
+      b.army(army);
+      b.isAsNewWith(army);
+    }
+    b.fresh(Samples.GREATEST);
+    b.army(Samples.GREATEST);
+    b.army(Samples.posts(1) + Samples.men(6));
+    b.due("tell(0,0)=yes fair(0,1)=166666 fair(0,2)=1000000 years(0,40,2)=" + unheededOf(0, 40));
     b.fresh(Samples.posts(6) + Samples.men(6));
     for (int i = 0; i < 6; i++) b.due("post(" + i + ",3)=" + i + " man(" + i + ",3)=" + i);
     b.army(Samples.posts(6) + Samples.men(2));
@@ -807,6 +835,17 @@ final class BoundaryTexts {
     for (int i = 0; i < 17; i++) b.due("draw(1)=yes");
     b.army(Samples.ARMY);
     b.due("count(10)=0 draw(1)=yes count(10)=1 undo()=yes undo()=no");
+  }
+
+  /** In how many quarters of YEARS by a SEED one of six MEN, courage 1 or 2 (heed is 3), has the first POST. */
+  private static int unheededOf(int seed, int quarters) {
+    int many = 0;
+    Lots lots = new Lots(seed);
+    for (int quarter = 0; quarter < quarters; quarter++) {
+      if (lots.row(6)[0] < 2) many++;
+      lots.below(3);
+    }
+    return many;
   }
 
   private void aWarIsTheWar() {

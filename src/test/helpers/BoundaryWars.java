@@ -298,7 +298,7 @@ final class BoundaryWars {
   private void hasDrawn(int seed, int posts, int men) {
     b.fresh(Samples.posts(posts) + Samples.men(men));
     b.due("draw(" + seed + ")=yes");
-    int[] row = Samples.drawn(seed, men);
+    int[] row = new Lots(seed).row(men);
     for (int post = 0; post < posts; post++) b.due("post(" + post + ",3)=" + (post < men ? row[post] : -1));
     for (int i = 0; i < men; i++) b.due("man(" + row[i] + ",3)=" + (i < posts ? i : -1));
   }

@@ -4,6 +4,13 @@ final class Samples {
   static final String MEN = "man x brave 4 wit 1 coins 7; man y brave 2 wit 6 coins 3; man z brave 9 wit 0 coins 0; man v brave 5 wit 5 coins 999;";
   /** Three POSTS under one another, four MEN, and every number told. */
   static final String ARMY = POSTS + MEN + "front 8 at 3; theirs 12; quarter 2; heed 3;";
+  /** As much as an ARMY can tell, and the greatest numbers. */
+  static final String GREATEST = "post pa foot weighs 9;post pb foot weighs 9under pa;post pc foot weighs 9under pb;post pd foot weighs 9under pc;"
+      + "post pe foot weighs 9under pd;post pf foot weighs 9under pe;man a brave 1wit 9coins 999;man b brave 2wit 9coins 999;man c brave 3wit 9coins 999;"
+      + "man d brave 4wit 9coins 999;man e brave 5wit 9coins 999;man f brave 6wit 9coins 999;"
+      + "front 40at 37;theirs 999;quarter 13;heed 99;skill 9999;worth 0-courage*load;goes 3;";
+  /** The least numbers that an ARMY can tell. */
+  static final String LEAST = "post pa foe weighs 1; man a brave 0 wit 0 coins 0; front 4 at 1; theirs 0; quarter 1; heed 0; skill 0; worth 0; goes 0 - 3;";
 
   private Samples() { }
 
@@ -39,19 +46,4 @@ final class Samples {
 
   /** One POST of foot that weighs 1, and a MAN of so much courage at it: so much is OURS. */
   static String strong(int courage) { return "post a foot weighs 1; man m brave " + courage + " wit 0 coins 0;"; }
-
-  /** The row of MEN behind a DRAW by a SEED: by hand, the i-th has the i-th POST. */
-  static int[] drawn(int seed, int men) {
-    int[] row = new int[men];
-    for (int i = 0; i < men; i++) row[i] = i;
-    long g = seed;
-    for (int standing = men; standing >= 2; standing--) {
-      g = (g * 1103515245L + 12345L) % 2147483648L;
-      int other = (int) (g / 65536 % standing);
-      int man = row[standing - 1];
-      row[standing - 1] = row[other];
-      row[other] = man;
-    }
-    return row;
-  }
 }
