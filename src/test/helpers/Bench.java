@@ -97,13 +97,6 @@ final class Bench {
     differ("than a new one with the same ARMY", showing(told, List.of()), here);
   }
 
-  /** That the object at hand shows what a new one behind these calls does. */
-  void isAsNewBehind(String calls) {
-    List<Call> told = new ArrayList<>();
-    for (Due one : parse(calls)) told.add(one.call);
-    differ("than a new one behind " + calls, showing(told, List.of()), showing(script, List.of()));
-  }
-
   /** How many calls the object at hand has had. */
   int calls() { return script.size(); }
 

@@ -777,6 +777,14 @@ public final class RandomRuns {
     }
   }
 
+  /** Bytes of any kind, or blanks up to about as many as there is room for. */
+  static String rubble(Random r) {
+    if (r.nextInt(3) > 0) return " ".repeat(r.nextBoolean() ? 1000 - r.nextInt(400) : r.nextInt(1100));
+    StringBuilder s = new StringBuilder();
+    for (int i = r.nextInt(40); i > 0; i--) s.append((char) r.nextInt(256));
+    return s.toString();
+  }
+
   static boolean due(List<String> log, String call, int got, int want) {
     asked++;
     log.add(call + " = " + got);
@@ -827,6 +835,7 @@ public final class RandomRuns {
         if (k == 0) {
           String text = w.army();
           if (r.nextInt(2) == 0 && call > 0) text = w.spoiled(text);
+          if (r.nextInt(8) == 0 && call > 0) text = rubble(r) + text;
           feed(x, m, text, log);
           log.add(text);
           int want = m.army();
@@ -836,6 +845,7 @@ public final class RandomRuns {
         } else if (k == 1) {
           String text = w.war(m);
           if (r.nextInt(3) == 0) text = w.spoiled(text);
+          if (r.nextInt(8) == 0) text = rubble(r) + text;
           feed(x, m, text, log);
           log.add(text);
           int want = m.war();
