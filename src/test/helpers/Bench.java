@@ -1,6 +1,5 @@
 import java.util.ArrayList;
 import java.util.List;
-import java.util.NoSuchElementException;
 import java.util.regex.Matcher;
 import java.util.regex.Pattern;
 
@@ -11,7 +10,6 @@ import java.util.regex.Pattern;
 final class Bench {
   /** The document leaves free what an object answers behind so many calls. */
   static final int MOST_CALLS = 512;
-  private static final long LOST = Long.MIN_VALUE;
   private static final int MOST_SHOWN = 40;
   private static final Pattern CALL = Pattern.compile("\\s*(\\w+)\\(([^()]*)\\)=(\\S+)");
 
@@ -120,7 +118,7 @@ final class Bench {
     if (wrong <= MOST_SHOWN) System.out.println(held + "\n    " + what);
   }
 
-  private static String told(long answer) { return answer == LOST ? "lost" : Long.toString(answer); }
+  private static String told(long answer) { return answer == Calls.LOST ? "lost" : Long.toString(answer); }
 
   private long ask(Call call) {
     script.add(call);
@@ -267,53 +265,13 @@ final class Bench {
       case "no": case "lay": return 0;
       case "MIN": return Integer.MIN_VALUE;
       case "MAX": return Integer.MAX_VALUE;
-      case "lost": return LOST;
+      case "lost": return Calls.LOST;
       default: return Long.parseLong(word);
     }
   }
 
   private static long answer(RaffleArmy x, Call call) {
-    int a = (int) call.a, b = (int) call.b, c = (int) call.c;
-    switch (call.name) {
-      case "feed": return x.feed(call.a, call.b, call.c);
-      case "army": return x.army();
-      case "war": return x.war();
-      case "post": return x.post(a, b);
-      case "man": return x.man(a, b);
-      case "skill": return x.skill(a, b);
-      case "ours": return x.ours();
-      case "draw": return x.draw(a) ? 1 : 0;
-      case "sell": return x.sell(a, b, c) ? 1 : 0;
-      case "order": return x.order(a) ? 1 : 0;
-      case "weeks": return x.weeks(a);
-      case "undo": return x.undo() ? 1 : 0;
-      case "judged": return x.judged(a);
-      case "first": return x.first();
-      case "best": return x.best(a);
-      case "mean": return x.mean();
-      case "loss": return x.loss();
-      default: return reckoned(x, call.name, a, b, c);
-    }
-  }
-
-  private static long reckoned(RaffleArmy x, String name, int a, int b, int c) {
-    switch (name) {
-      case "plan": return x.plan(a, b);
-      case "swaps": return x.swaps(a);
-      case "leave": return x.leave();
-      case "pool": return x.pool(a);
-      case "share": return x.share(a, b);
-      case "tell": return x.tell(a, b) ? 1 : 0;
-      case "fair": return x.fair(a, b);
-      case "more": return x.more(a, b, c);
-      case "see": return x.see(a) ? 1 : 0;
-      case "orders": return x.orders(a);
-      case "putOff": return x.putOff(a);
-      case "rests": try { return x.rests(a, b, c); } catch (NoSuchElementException e) { return LOST; }
-      case "years": return x.years(a, b, c);
-      case "mark": return x.mark(a, b != 0) ? 1 : 0;
-      case "count": return x.count(a);
-      default: throw new IllegalArgumentException("no call " + name);
-    }
+    if (call.name.equals("feed")) return x.feed(call.a, call.b, call.c);
+    return Calls.answer(x, call.name, (int) call.a, (int) call.b, (int) call.c);
   }
 }

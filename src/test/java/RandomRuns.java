@@ -4,7 +4,6 @@ import java.util.HashMap;
 import java.util.HashSet;
 import java.util.List;
 import java.util.Map;
-import java.util.NoSuchElementException;
 import java.util.Random;
 import java.util.Set;
 import java.util.function.Consumer;
@@ -13,7 +12,7 @@ import java.util.function.Consumer;
 public final class RandomRuns {
   private static final int RUNS = 1500;
   private static final int CALLS = 160;
-  private static final int LOST = Integer.MIN_VALUE;
+  private static final int LOST = Calls.LOST;
   private static int wrong = 0;
   private static int asked = 0;
 
@@ -649,40 +648,6 @@ public final class RandomRuns {
     }
   }
 
-  static int ask(RaffleArmy x, String name, int a, int b, int c) {
-    switch (name) {
-      case "post": return x.post(a, b);
-      case "man": return x.man(a, b);
-      case "skill": return x.skill(a, b);
-      case "ours": return x.ours();
-      case "draw": return x.draw(a) ? 1 : 0;
-      case "sell": return x.sell(a, b, c) ? 1 : 0;
-      case "order": return x.order(a) ? 1 : 0;
-      case "weeks": return x.weeks(a);
-      case "undo": return x.undo() ? 1 : 0;
-      case "judged": return x.judged(a);
-      case "first": return x.first();
-      case "best": return x.best(a);
-      case "mean": return x.mean();
-      case "loss": return x.loss();
-      case "plan": return x.plan(a, b);
-      case "swaps": return x.swaps(a);
-      case "leave": return x.leave();
-      case "pool": return x.pool(a);
-      case "share": return x.share(a, b);
-      case "tell": return x.tell(a, b) ? 1 : 0;
-      case "fair": return x.fair(a, b);
-      case "more": return x.more(a, b, c);
-      case "see": return x.see(a) ? 1 : 0;
-      case "orders": return x.orders(a);
-      case "putOff": return x.putOff(a);
-      case "rests": try { return x.rests(a, b, c); } catch (NoSuchElementException e) { return LOST; }
-      case "years": return x.years(a, b, c);
-      case "mark": return x.mark(a, b != 0) ? 1 : 0;
-      default: return x.count(a);
-    }
-  }
-
   /** Random texts of the language, and texts that are nearly of it. */
   static final class Writer {
     final Random r;
@@ -855,7 +820,7 @@ public final class RandomRuns {
         } else {
           String name = NAMES[r.nextInt(NAMES.length)];
           int a = arg(r, name, 0, m), b = arg(r, name, 1, m), c = arg(r, name, 2, m);
-          good = due(log, name + "(" + a + ", " + b + ", " + c + ")", ask(x, name, a, b, c), m.call(name, a, b, c));
+          good = due(log, name + "(" + a + ", " + b + ", " + c + ")", Calls.answer(x, name, a, b, c), m.call(name, a, b, c));
         }
       }
     }
