@@ -70,7 +70,7 @@ final class Bench {
     for (Due one : parse(calls)) same(one.call.written(), ask(one.call), one.answer);
   }
 
-  /** Calls that change nothing: each by itself answers so, and all that later calls show is as before. */
+  /** Calls that change nothing: each by itself answers so, and what later calls show is as before. */
   void refused(String calls) {
     for (Due one : parse(calls)) leavesAll(List.of(one.call), one.answer);
   }
@@ -160,7 +160,7 @@ final class Bench {
     }
   }
 
-  /** All that calls show of an object behind these: what is there, then what can be undone, MARKS, and the TAPE. */
+  /** What calls show of an object behind these: what is there, some of each reckoning, what can be undone, MARKS, and the TAPE. */
   private List<String> showing(List<Call> told, List<Call> more) {
     Copy copy = new Copy();
     for (Call call : told) copy.ask(call);
