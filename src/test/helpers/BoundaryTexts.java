@@ -830,6 +830,19 @@ final class BoundaryTexts {
     b.fresh("front 40 at 1; theirs 0; quarter 1; heed 99; skill 99; worth 0 - load; goes 3;");
     b.army(Samples.posts(2) + Samples.men(2));
     b.due("count(2)=10 count(3)=5 skill(0,0)=1 swaps(1)=1 weeks(13)=5 count(3)=0");
+    // a law goes no further than it was told, though a longer one stood there, in a text that was none or in ARMIES ahead
+    for (String longer : new String[] {"not 5", "not not 5"}) {
+      b.fresh();
+      b.armyFault(1, "skill " + longer + ";^#");
+      b.feed("skill " + longer + "; #");
+      b.due("army()=" + (1 + 16 * (longer.length() + 8)));
+      b.army(Samples.strong(1) + "skill 7;");
+      b.due("skill(0,0)=7 ours()=7");
+      b.fresh("goes " + longer + ";");
+      b.army("goes " + longer + ";");
+      b.army("front 40 at 20; goes 3;");
+      b.due("weeks(1)=1 count(3)=23");
+    }
     // the 17 that were done ahead are gone, and those behind count anew
     b.fresh(Samples.ARMY);
     for (int i = 0; i < 17; i++) b.due("draw(1)=yes");

@@ -13,6 +13,8 @@ import java.util.IdentityHashMap;
 import java.util.NoSuchElementException;
 import java.util.Set;
 import java.util.TreeSet;
+import java.util.regex.Matcher;
+import java.util.regex.Pattern;
 
 /** The class's face as the document has it, its size in the room, and what of LANGUAGE.md a test can see. */
 public final class Shape {
@@ -22,6 +24,9 @@ public final class Shape {
     "int best(int)", "int mean()", "int loss()", "int plan(int,int)", "int swaps(int)", "int leave()", "int pool(int)", "int share(int,int)",
     "boolean tell(int,int)", "int fair(int,int)", "int more(int,int,int)", "boolean see(int)", "int orders(int)", "int putOff(int)",
     "int rests(int,int,int)", "int years(int,int,int)", "boolean mark(int,boolean)", "int count(int)"};
+  private static final String[] REST = {"import java.util.NoSuchElementException;", "public final class RaffleArmy {",
+    "public static final int NONE = -1;", "public RaffleArmy();", "}"};
+  private static final Pattern CALL = Pattern.compile("public (\\w+ \\w+)\\(([^()]*)\\)( throws NoSuchElementException)?;");
   private static final int MOST_OBJECTS = 160;
   private static final int MOST_ELEMENTS = 6000;
   private static int wrong = 0;
@@ -63,9 +68,31 @@ public final class Shape {
       must(shown ? Modifier.isPublic(f.getModifiers()) : Modifier.isPrivate(f.getModifiers()), f + " is private");
       must(!Modifier.isStatic(f.getModifiers()) || Modifier.isFinal(f.getModifiers()), f + " is final if static");
     }
+    Field none = c.getField("NONE");
+    must(none.getType() == int.class && Modifier.isStatic(none.getModifiers()) && none.getInt(null) == -1, "NONE is the int -1");
+    for (Method m : c.getDeclaredMethods()) must(m.getName().equals("rests") || m.getExceptionTypes().length == 0, m + " names no exception");
     Constructor<?>[] made = c.getDeclaredConstructors();
     must(made.length == 1 && Modifier.isPublic(made[0].getModifiers()) && made[0].getParameterCount() == 0, "one public constructor");
     inside(names);
+  }
+
+  /** The list above against the document's own block, names of parameters left out. */
+  private static void faceAsTold() throws Exception {
+    Path document = Path.of("../shared/DOC.md");
+    if (!Files.exists(document)) return;
+    Set<String> told = new TreeSet<>();
+    Set<String> rest = new TreeSet<>();
+    boolean isFace = false;
+    for (String line : Files.readAllLines(document)) {
+      String plain = line.trim();
+      if (line.startsWith("## ")) isFace = line.equals("## The public face");
+      if (!isFace || plain.isEmpty() || plain.startsWith("## ") || plain.startsWith("```")) continue;
+      Matcher call = CALL.matcher(plain);
+      if (call.matches()) told.add(call.group(1) + "(" + call.group(2).replaceAll(" \\w+(,|$)", "$1").replace(" ", "") + ")");
+      else rest.add(plain);
+    }
+    must(told.equals(new TreeSet<>(Arrays.asList(FACE))), "the document's calls are those of this test: " + told);
+    must(rest.equals(new TreeSet<>(Arrays.asList(REST))), "and the rest of its face, too: " + rest);
   }
 
   private static void inside(Set<String> names) {
@@ -132,6 +159,7 @@ public final class Shape {
 
   public static void main(String[] args) throws Exception {
     face();
+    faceAsTold();
     size();
     text();
     System.out.println(wrong == 0 ? "all is so" : wrong + " are not so");
